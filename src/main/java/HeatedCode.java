@@ -19,6 +19,8 @@ public final class HeatedCode {
     private static final int GIVEN_ONES = 3;
 
     private static final int MOST_GLOW = 99;
+    /** The PLAIN ones have this GLOW: no RUN of 2,000 STEPS comes to such a HEAT. */
+    private static final int GLOW_OF_NO_HEAT = 1_000_000;
     private static final int MOST_PATIENCE = 9;
     private static final int MOST_RUNS = 30;
     private static final int MOST_TUNED_RUNS = 8;
@@ -423,10 +425,9 @@ public final class HeatedCode {
         trial.patience = learnt.patience;
     }
 
-    /** The PLAIN one: a GLOW that no HEAT comes to. */
     private void tryPlainly(int function) {
         makeTrialFresh();
-        trial.glow = Integer.MAX_VALUE;
+        trial.glow = GLOW_OF_NO_HEAT;
         machine.perform(function, trial, triedRun);
     }
 
@@ -508,7 +509,11 @@ public final class HeatedCode {
 
         void copy(int to, Values source, int from, int many) {
             for (int k = 0; k < many; k++) {
-                put(to + k, source.kindAt(from + k), source.numberAt(from + k));
+                boolean fits = to + k >= 0 && to + k < kinds.length && to + k < numbers.length;
+                if (fits && from + k >= 0 && from + k < source.kinds.length && from + k < source.numbers.length) {
+                    kinds[to + k] = source.kinds[from + k];
+                    numbers[to + k] = source.numbers[from + k];
+                }
             }
         }
     }
@@ -605,13 +610,15 @@ public final class HeatedCode {
         }
 
         private boolean isDoneOfWords(int sign, long left, long right) {
+            int ahead = lettersOf(left);
+            int behind = lettersOf(right);
             switch (sign) {
                 case PLUS:
                     kindOut = WORD;
-                    numberOut = join(left, right);
+                    numberOut = join(left, ahead, right, behind);
                     return true;
                 case LESS:
-                    putTruth(fill(left) < fill(right));
+                    putTruth(fill(left, ahead) < fill(right, behind));
                     return true;
                 case ALIKE:
                     putTruth(left == right);
@@ -621,15 +628,15 @@ public final class HeatedCode {
             }
         }
 
-        private static long join(long left, long right) {
-            int behind = lettersOf(right);
-            int tooMany = Math.max(0, lettersOf(left) + behind - MOST_LETTERS);
+        private static long join(long left, int ahead, long right, int behind) {
+            int letters = ahead + behind;
+            int tooMany = letters > MOST_LETTERS ? letters - MOST_LETTERS : 0;
             return ((left << (behind * BITS_OF_A_LETTER)) + right) >> (tooMany * BITS_OF_A_LETTER);
         }
 
         /** Filled up to six letters, so that NUMBERS stand as in a dictionary: none ahead of a. */
-        private static long fill(long word) {
-            return word << ((MOST_LETTERS - lettersOf(word)) * BITS_OF_A_LETTER);
+        private static long fill(long word, int letters) {
+            return word << ((MOST_LETTERS - letters) * BITS_OF_A_LETTER);
         }
 
         private void putTruth(boolean truth) {
@@ -831,22 +838,16 @@ public final class HeatedCode {
                 readExpression(0);
                 take(';');
                 into.add(Program.RETURN, 0, 0);
+            } else if (variableHere() != NONE) {
+                int variable = variableHere();
+                at++;
+                take('=');
+                readExpression(0);
+                take(';');
+                into.add(Program.SET, variable, 0);
             } else {
-                readSetting();
-            }
-        }
-
-        private void readSetting() {
-            int variable = variableHere();
-            if (variable == NONE) {
                 fail(CANNOT_STAND);
-                return;
             }
-            at++;
-            take('=');
-            readExpression(0);
-            take(';');
-            into.add(Program.SET, variable, 0);
         }
 
         private void readWhile() {
@@ -1071,10 +1072,13 @@ public final class HeatedCode {
 
         /** Takes what opens, if as many are open as may be with one more. */
         private boolean opens(int due, int open) {
-            if (look() == due && open >= MOST_OPEN) {
+            if (look() != due) {
+                fail(CANNOT_STAND);
+            } else if (open >= MOST_OPEN) {
                 fail(TOO_MANY);
+            } else {
+                at++;
             }
-            take(due);
             return fault == NO_FAULT;
         }
 
@@ -1097,6 +1101,7 @@ public final class HeatedCode {
     /** What there is behind some RUNS: of FUNCTIONS, of PLACES, and how many RUNS there were, at what COST. */
     private static final class Learnt {
         private static final int NO_CODE = 0;
+        private static final int PAIRS = 16;
 
         private int glow = 10;
         private int patience = 3;
@@ -1133,19 +1138,14 @@ public final class HeatedCode {
             Arrays.fill(guesses, NEVER_GUESS);
         }
 
+        /** As another one, but for its counts, by which no RUN goes. */
         void becomeAs(Learnt other) {
+            becomeFresh();
             glow = other.glow;
             patience = other.patience;
-            runsDone = other.runsDone;
-            costSum = other.costSum;
             codesMade = other.codesMade;
             copyRow(other.heats, heats);
             copyRow(other.hotCodes, hotCodes);
-            copyRow(other.madeCounts, madeCounts);
-            copyRow(other.enteredCounts, enteredCounts);
-            copyRow(other.exitCounts, exitCounts);
-            copyRow(other.leftCounts, leftCounts);
-            copyRow(other.frameCounts, frameCounts);
             copyRow(other.seen, seen);
             copyRow(other.opened, opened);
             copyRow(other.placeExits, placeExits);
@@ -1157,11 +1157,11 @@ public final class HeatedCode {
         }
 
         boolean isHot(int function) {
-            return codeOf(function) != NO_CODE;
+            return function >= 0 && function < MOST_FUNCTIONS && hotCodes[function] != NO_CODE;
         }
 
         int codeOf(int function) {
-            return isWithin(function, MOST_FUNCTIONS) ? hotCodes[function] : NO_CODE;
+            return function >= 0 && function < MOST_FUNCTIONS ? hotCodes[function] : NO_CODE;
         }
 
         int hotFunctions() {
@@ -1197,7 +1197,7 @@ public final class HeatedCode {
         }
 
         void coolDown(int function) {
-            if (isWithin(function, MOST_FUNCTIONS)) {
+            if (function >= 0 && function < MOST_FUNCTIONS) {
                 hotCodes[function] = NO_CODE;
                 heats[function] = 0;
             }
@@ -1253,10 +1253,18 @@ public final class HeatedCode {
 
         private int guessOf(int place) {
             int bits = seen[place];
-            if (opened[place] == 1 || Integer.bitCount(bits) > 1) {
+            // without its lowest bit there is nothing left of one PAIR
+            if (opened[place] == 1 || (bits & (bits - 1)) != 0) {
                 return OPEN_GUESS;
             }
-            return bits == 0 ? NEVER_GUESS : Integer.numberOfTrailingZeros(bits);
+            if (bits == 0) {
+                return NEVER_GUESS;
+            }
+            int pair = 0;
+            while (pair < PAIRS && (bits >> pair & 1) == 0) {
+                pair++;
+            }
+            return pair;
         }
 
         /** As function() tells it. */
@@ -1544,7 +1552,7 @@ public final class HeatedCode {
         }
 
         private int functionOf(int frame) {
-            return isWithin(frame, MOST_FRAMES) ? frameFunctions[frame] : NONE;
+            return frame >= 0 && frame < MOST_FRAMES ? frameFunctions[frame] : NONE;
         }
 
         private void stick(int place) {
