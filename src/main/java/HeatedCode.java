@@ -1488,6 +1488,7 @@ public final class HeatedCode {
             int left = program.leftAt(at);
             int right = (int) program.rightAt(at);
             frameAts[frame] = at + 1;
+            // SPENT, as the RUN's outcome is from its beginning on: ahead of all that could come of the STEP
             if (code >= Program.FIRST_STEP && run.steps >= MOST_STEPS) {
                 going = false;
                 return;
