@@ -247,6 +247,16 @@ public final class EdgeHotTest {
         Due.is("GUESS, were it made", open.place(0, 7), -2);
         open.run(0);
         Due.is("GUESS", open.place(0, 6), -2);
+        // of its own PLACES alone: those of the FUNCTIONS ahead and behind stay as they were taken
+        HeatedCode three = coded("fun 0{if 1{}}fun 0{if 1{}}fun 0{if 1{}}", 1, 9, 0);
+        three.run(0);
+        three.run(2);
+        three.run(1);
+        Due.is("all HOT", three.told(5), 7);
+        for (int place = 0; place < 3; place++) {
+            Due.is("NEVER, as it was taken", three.place(place, 6), -3);
+            Due.is("true, were it made now", three.place(place, 7), 1);
+        }
         // NEVER, of a PLACE that is made HOT unseen
         HeatedCode never = coded("fun 1{if 0{a=a+1;}}", 2, 9, 0);
         runs(never, 2);
