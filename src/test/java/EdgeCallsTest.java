@@ -151,7 +151,26 @@ public final class EdgeCallsTest {
             Due.is("the length of 600", code.fault(), 600);
             code.program(0);
             Due.is("without", code.fault(), -1);
+            nothingButATextChangesTheFault();
         });
+    }
+
+    /** None of these is a text: fault() stays, and the TAPE with it. */
+    private static void nothingButATextChangesTheFault() {
+        HeatedCode code = Due.coded("fun 1{a=a+1;}");
+        Due.program(code, "fun 0{a=;}");
+        code.feed(1, 2, 3, 4, 5);
+        code.give(0, 1, 1);
+        code.runs(0, 2);
+        code.glow(1);
+        code.patience(1);
+        code.cool(0);
+        code.forget(0);
+        code.pays(0);
+        Due.is("what is no text leaves it", code.fault(), 8);
+        Due.is("RUNS", code.clear(), 2);
+        Due.is("clear() leaves it", code.fault(), 8);
+        Due.is("and the TAPE", code.told(6), 20);
     }
 
     /** Two FUNCTIONS, three PLACES, with RUNS, two NOTES, HOT CODE, an OPEN PLACE, and GIVEN ones. */
